@@ -330,29 +330,23 @@ public final class CutTrail {
 
     // ---- what the calls share
 
+    // Whether there was something to do. Without hope there is a break: no mark is made then.
     private boolean oneStep() {
-        if (now.hopeless) {
-            return false;
-        }
-        if (now.theBreak() != NONE) {
+        if (now.canLearn()) {
             tracer.learnt(now);
             return true;
         }
         int x = now.trail.firstOpen();
-        if (x == NONE) {
-            return false;
-        }
-        now.made(markOf(x, AT_MOST, now.trail.low[x]));
-        return true;
+        return x != NONE && now.made(markOf(x, AT_MOST, now.trail.low[x]));
     }
 
     private boolean canBe(int doing) {
         int first = doing / 10 % 10;
         int second = doing % 10;
         switch (doing / 100) {
-            case 1: return makeOnTrial(markOf(first, AT_LEAST, second));
-            case 2: return makeOnTrial(markOf(first, AT_MOST, second));
-            case 3: return doing == 300 && learnOnTrial();
+            case 1: return trial.made(markOf(first, AT_LEAST, second));
+            case 2: return trial.made(markOf(first, AT_MOST, second));
+            case 3: return doing == 300 && trial.canLearn() && tracer.learnt(trial) >= 0;
             case 4: return trial.trail.size == doing % 100;
             case 5: return told.hasNumber(first) && trial.trail.low[first] == second;
             case 6: return told.hasNumber(first) && trial.trail.high[first] == second;
@@ -361,27 +355,11 @@ public final class CutTrail {
         }
     }
 
-    private boolean makeOnTrial(int mark) {
-        if (!trial.canMake(mark)) {
-            return false;
-        }
-        trial.made(mark);
-        return true;
-    }
-
-    private boolean learnOnTrial() {
-        if (!trial.canLearn()) {
-            return false;
-        }
-        tracer.learnt(trial);
-        return true;
-    }
-
     private void drawOnTrial(int v) {
-        if (trial.theBreak() != NONE) {
-            learnOnTrial();
+        if (trial.canLearn()) {
+            tracer.learnt(trial);
         } else if (told.numbers > 0) {
-            makeOnTrial(markOf(v % told.numbers, v / 4 % 2, v / 8 % 10));
+            trial.made(markOf(v % told.numbers, v / 4 % 2, v / 8 % 10));
         }
     }
 
@@ -608,9 +586,9 @@ public final class CutTrail {
         }
 
         // The last place ahead of end with a mark of that number and side.
-        int lastAhead(int end, int row) {
+        int lastAhead(int end, int x, int side) {
             for (int i = Math.min(end, size) - 1; i >= 0; i--) {
-                if (sideRow(marks[i]) == row) {
+                if (marks[i] / 10 == 10 * x + side) {
                     return i;
                 }
             }
@@ -821,9 +799,13 @@ public final class CutTrail {
             return !hopeless && theBreak() != NONE;
         }
 
-        void made(int mark) {
+        boolean made(int mark) {
+            if (!canMake(mark)) {
+                return false;
+            }
             trail.put(mark, trail.level() + 1, MADE);
             drawIn();
+            return true;
         }
 
         void left() {
@@ -935,8 +917,8 @@ public final class CutTrail {
             for (int x = 0; x < state.task.numbers; x++) {
                 int weight = state.task.weights[rule][x];
                 if (weight != 0 && x != own) {
-                    int row = x * 2 + (weight > 0 ? AT_LEAST : AT_MOST);
-                    why[row] = state.trail.lastAhead(end, row);
+                    int side = weight > 0 ? AT_LEAST : AT_MOST;
+                    why[x * 2 + side] = state.trail.lastAhead(end, x, side);
                 }
             }
         }
@@ -945,8 +927,7 @@ public final class CutTrail {
             for (int k = 0; k < state.cuts.sizes[cut]; k++) {
                 int other = state.cuts.at(cut, k);
                 if (mark == NONE || negated(other) != mark) {
-                    int row = sideRow(other);
-                    why[row] = state.trail.lastAhead(end, row);
+                    why[sideRow(other)] = state.trail.lastAhead(end, other / 100, other / 10 % 10);
                 }
             }
         }
