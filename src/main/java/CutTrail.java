@@ -376,7 +376,8 @@ public final class CutTrail {
         return 100 * x + 10 * side + k;
     }
 
-    // Only marks that are not so are negated: their k never leaves 0 .. 9 by it.
+    // Only marks that came onto a trail are negated: they told more than 0 or less than the
+    // top, so k stays in 0 .. 9.
     private static int negated(int mark) {
         return mark / 10 % 10 == AT_LEAST ? mark + 9 : mark - 9;
     }
