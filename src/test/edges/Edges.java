@@ -26,6 +26,15 @@ class Edges {
     /** A cut of six marks can be learnt from it: by 012 201 211 311. */
     static final String SIX_MARKS = "L44323r1ba1-04rb23c+00";
 
+    /** All 36 marks that there can be are drawn in at once, and all is solved. */
+    static final String ALL_DRAWN = "L49999ra111+01r0b01-02rbb3a-03r001a-01r01c2+02ra3ac+03";
+    /** All 36 marks are drawn in at once, and rule 2 breaks. */
+    static final String ALL_BROKEN = "L49999r33c0-00rb002-01r002b+01r0b02+04";
+    /** Weights and tops that are all of their own. */
+    static final String[] MIXED = {
+        "L43579r123a+07rb0c3+02r3a2b-05", "L47531rab12+05r21cb+09", "L42468r0101+09rc21a+03r12b3+10r1a1a+00",
+        "L3359r1b2+04rc2a+03", "L295r3b+07ra2+03", "L12r3+05rb-01"};
+
     static int wrong = 0;
     static String test = "";
 

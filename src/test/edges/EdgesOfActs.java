@@ -458,6 +458,21 @@ final class EdgesOfActs extends Edges {
         learnsAtForty(used, 2);
     }
 
+    @Says("the first one that is no REASON of a MARK of THE TRAIL is forgotten ahead of it")
+    static void promise13_marksThatWereOnTheTrailAreNotLookedAt() {
+        // Of the task ahead the mark behind 25 others was told by cut 0: it is not on the trail any more.
+        Used used = new Used().tells("L49999r11a0+09r1110+26").plays("009 109 l v");
+        due(List.of(9, 109), used.marksOfCut(0));
+        used.plays("301 302 303 304 305 306 307 308 309 001 002 003 004 005 006 007 008 101 102 103 203 204 009");
+        due(26, used.about(2));
+        due(10, used.mark(25, 2));
+        used.tells(MANY);
+        due(50, used.run(50));
+        due(31, used.run(31));
+        due(25, used.about(2));
+        learnsAtForty(used, 0);
+    }
+
     private static final String LONG =
         "105 010 106 l l l 207 002 103 003 l v v v 110 010 l 314 003 207 v v v v 305 v 012 101 215 103 l 204 310 "
         + "102 l l 205 311 l l l l 301 313 205 208 113 002 l l l 214 l 312 002 311 l l v v v v 112 010 216 206 l l "
@@ -773,6 +788,19 @@ final class EdgesOfActs extends Edges {
         due(0, used.about(6));
         due(1, used.about(4));
         due(0, used.learn());
+    }
+
+    @Says("The last ACT is undone: how many are left.")
+    static void promise16_aCutUndoneLeavesNothing() {
+        Used used = new Used().tells(SIX_MARKS).plays("012 201 211 311 l");
+        due(6, used.marksOfCut(0).size());
+        due(4, used.undo());
+        due(0, used.about(5));
+        due(UNKNOWN, used.cut(0, 0));
+        due(UNKNOWN, used.follows(0));
+        due(1, used.about(4));
+        due(6, used.learn());
+        due(1, used.about(5));
     }
 
     @Says("later ones are at one place less then, REASONS likewise")

@@ -193,6 +193,15 @@ final class EdgesOfAsking extends Edges {
         due(21, used.about(8));
     }
 
+    @Says("WAYS: how many there are by all RULES (THE TRAIL set aside).")
+    static void promise06_waysOfAnyWeightsAndTops() {
+        for (String text : MIXED) {
+            due(new ByHand(text).ways(0), new Used().tells(text).about(8));
+        }
+        String six = "L44444" + "r1000+03r0100+03r0010+03r0001+03r1111+08raaaa-02";
+        due(new ByHand(six).ways(0), new Used().tells(six).about(8));
+    }
+
     @Says("OPEN: how many of them by which all MARKS of THE TRAIL are so.")
     static void promise06_noWayOpenAndAllOpen() {
         Used all = new Used().tells("L49999");
@@ -527,6 +536,24 @@ final class EdgesOfAsking extends Edges {
         due(1, both.mark(3, 3));
     }
 
+    @Says("for each of its other MARKS the last MARK ahead on THE TRAIL of the same NUMBER and SIDE, if there is one")
+    static void promise09_marksThatAreNotInTheCutAreNotLookedAt() {
+        // x, 0, 1 of the first number is on the trail, and not in the cut of the next two.
+        Used used = new Used().tells("L41111r011a+01r0111+02").plays("001 101 201 l");
+        due(List.of(101, 201), used.marksOfCut(0));
+        due(List.of(1, 101, 210), used.marks());
+        due(1, used.mark(2, 3));
+    }
+
+    @Says("for each of its other MARKS the last MARK ahead on THE TRAIL of the same NUMBER and SIDE, if there is one")
+    static void promise09_theNegatedMarkItselfIsNotLookedAt() {
+        // Of the cut of x, 0, 1 and y, 0, 2 the second one is negated: y, 0, 1 ahead is not its why.
+        Used used = new Used().tells("L3121r11a+02r111+03").plays("101 001 102 l");
+        due(List.of(1, 102), used.marksOfCut(0));
+        due(List.of(101, 1, 111), used.marks());
+        due(List.of(0, 0, 1), used.row(3));
+    }
+
     @Says("WHY of MARKS of LEVEL 0 is told like that of others.")
     static void promise09_whyAtLevel0() {
         Used used = new Used().tells("L299r11+05ra0-01");
@@ -623,6 +650,16 @@ final class EdgesOfAsking extends Edges {
         due(Collections.nCopies(40, 1), answers);
         due(1, new Used().tells(SMALL).plays("001 l").follows(0));
         due(1, new Used().tells(TWO).plays("001 301 101 l").follows(0));
+    }
+
+    @Says("FOLLOWS: whether by each WAY some MARK of a CUT is not so: 1 (as it always is), 0.")
+    static void promise11_byTheTopsThatThereAreNow() {
+        // Only by the tops of 1 x, 0, 1 can not be; ways by higher ones were counted ahead.
+        Used used = new Used().tells("L3999");
+        due(1000, used.about(8));
+        used.tells("L3111r2aa+00r110+01").plays("001 l");
+        due(List.of(1), used.marksOfCut(0));
+        due(1, used.follows(0));
     }
 
     @Says("In what follows nothing is changed.")

@@ -54,6 +54,40 @@ final class EdgesOfChances extends Edges {
     }
 
     @Says("if RULES come one by one, in each order as likely")
+    static void promise21_oneToSixRules() {
+        // Rule 0 rules out one value more than rule 1 does, and so on: each has its part of each.
+        share(1, 1, new Used().tells("L19r1+08"), 0);
+        share(3, 2, new Used().tells("L19r1+07r1+08"), 0);
+        share(11, 6, new Used().tells("L19r1+06r1+07r1+08"), 0);
+        share(25, 12, new Used().tells("L19r1+05r1+06r1+07r1+08"), 0);
+        share(137, 60, new Used().tells("L19r1+04r1+05r1+06r1+07r1+08"), 0);
+        Used six = new Used().tells("L19r1+03r1+04r1+05r1+06r1+07r1+08");
+        share(49, 20, six, 0);
+        share(29, 20, six, 1);
+        share(19, 20, six, 2);
+        share(37, 60, six, 3);
+        share(11, 30, six, 4);
+        share(1, 6, six, 5);
+    }
+
+    @Says("if RULES come one by one, in each order as likely")
+    static void promise21_ofAnyWeightsAndTops() {
+        for (String text : MIXED) {
+            ByHand task = new ByHand(text);
+            Used used = new Used().tells(text);
+            for (int rule = 0; rule < task.rules(); rule++) {
+                fraction(task.fewerInAllOrders(rule), ByHand.orders(task.rules()),
+                    used.share(rule, true), used.share(rule, false));
+            }
+        }
+    }
+
+    private static void fraction(long above, long below, long toldAbove, long toldBelow) {
+        due(above * toldBelow, below * toldAbove);
+        due(1, BigInteger.valueOf(toldAbove).gcd(BigInteger.valueOf(toldBelow)).longValue());
+    }
+
+    @Says("if RULES come one by one, in each order as likely")
     static void promise21_theTaskThatIsToldNow() {
         Used used = new Used().tells("L19r1+04");
         share(5, 1, used, 0);
@@ -128,6 +162,21 @@ final class EdgesOfChances extends Edges {
         chance(1, 1, fewer, 9990, 0);
         chance(0, 1, fewer, 9991, 0);
         chance(2, 5, fewer, 9991, 4);
+    }
+
+    @Says("CHANCE: each RULE is lost by x tenths (0 .. 10), by itself")
+    static void promise22_ofAnyWeightsAndTops() {
+        for (String text : MIXED) {
+            ByHand task = new ByHand(text);
+            Used used = new Used().tells(text);
+            long below = Math.round(Math.pow(10, task.rules()));
+            for (int lost = 0; lost < 1 << task.rules(); lost++) {
+                int ways = task.ways(lost);
+                int x = lost % 11;
+                fraction(task.likely(ways, x), below, used.chance(ways, x, true), used.chance(ways, x, false));
+                fraction(task.likely(ways + 1, 3), below, used.chance(ways + 1, 3, true), used.chance(ways + 1, 3, false));
+            }
+        }
     }
 
     @Says("that there are v (0 .. 9999) WAYS or more: a FRACTION")

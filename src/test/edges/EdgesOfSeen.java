@@ -179,6 +179,37 @@ final class EdgesOfSeen extends Edges {
         due(100 * 5, used.which());
     }
 
+    @Says("(of NUMBERS that there are not any more nothing is looked at)")
+    static void promise20_norAtWhatCouldNeverHaveBeen() {
+        Used used = new Used().tells("L49999");
+        used.see(3, 0, 0, 0);
+        used.see(2, 1, 9, 0);
+        used.see(1, 0, 0, 0);
+        due(0, used.which());
+        due(0, used.tells("L3999").which());
+        due(0, used.tells("L299").which());
+        due(10, used.tells("L19").which());
+        due(3, used.about(11));
+    }
+
+    @Says("SEEN: that of an unknown WAY a MARK was so (1), or not (0)")
+    static void promise20_ofEachNumber() {
+        for (int x = 0; x < 4; x++) {
+            for (int k = 0; k <= 9; k++) {
+                Used used = new Used().tells("L49753");
+                int values = used.number(x, 2) + 1;
+                int others = used.about(8) / values;
+                used.see(x, 0, k, 1);
+                due(others * Math.max(0, values - k), used.which());
+                used.unsee();
+                used.see(x, 1, k, 1);
+                due(others * Math.min(values, k + 1), used.which());
+                used.see(x, 0, k, 1);
+                due(k < values ? others : 0, used.which());
+            }
+        }
+    }
+
     @Says("WHICH: WAYS by which all that is SEEN is so: how many.")
     static void promise20_aTopBelowWhatWasSeen() {
         Used used = new Used();

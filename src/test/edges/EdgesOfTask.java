@@ -603,6 +603,64 @@ final class EdgesOfTask extends Edges {
         due(0, used.about(10));
     }
 
+    @Says("DRAWN IN: as long as nothing BREAKS and something TELLS")
+    static void promise05_allMarksThatThereCanBeAreDrawnIn() {
+        Used solved = new Used().tells(ALL_DRAWN);
+        due(36, solved.about(2));
+        due(0, solved.about(3));
+        due(1, solved.about(7));
+        due(NONE, solved.about(4));
+        due(new ByHand(ALL_DRAWN).drawnIn(), solved.marks());
+        due(NONE, solved.mark(36, 0));
+        Used broken = new Used().tells(ALL_BROKEN);
+        due(36, broken.about(2));
+        due(2, broken.about(4));
+        due(new ByHand(ALL_BROKEN).drawnIn(), broken.marks());
+        due(0, broken.learn());
+        due(1, broken.about(6));
+    }
+
+    @Says("DRAWN IN: as long as nothing BREAKS and something TELLS")
+    static void promise05_whatEachTaskDrawsIn() {
+        for (String text : MIXED) {
+            due(new ByHand(text).drawnIn(), new Used().tells(text).marks());
+        }
+    }
+
+    @Says("THE TEXT is THE TASK")
+    static void promise05_nothingIsLeftOfTheTaskAhead() {
+        // More numbers, higher tops, more rules were there, and were counted.
+        Used used = new Used().tells("L49999" + "r1111+05".repeat(6));
+        due(126, used.about(8));
+        due(126, used.which());
+        used.chance(3, 3, true);
+        used.tells("L212r11+02");
+        due(5, used.about(8));
+        due(5, used.which());
+        due(5, used.about(9));
+        due(0, used.number(0, 3));
+        due(1, used.share(0, true));
+        due(0, used.chance(7, 10, true));
+        due(1, used.chance(6, 10, true));
+        due(2, used.run(50));
+        due(1, used.about(7));
+    }
+
+    @Says("there are no CUTS")
+    static void promise05_nothingIsLeftOfTheCutsAhead() {
+        // A cut of six marks was there; one of two, at its place, tells, is why, and breaks as if alone.
+        Used used = new Used().tells(SIX_MARKS).plays("012 201 211 311 l");
+        used.tells(THREE).plays("010 102 l");
+        due(List.of(10, 102), used.marksOfCut(0));
+        due(List.of(112, 10, 111), used.marks());
+        due(List.of(0, 0, 1), used.row(3));
+        due(1, used.follows(0));
+        used.plays("v 102");
+        due(10, used.about(4));
+        due(1, used.learn());
+        due(List.of(102), used.marksOfCut(1));
+    }
+
     @Says("HOPELESS stays so till it is undone, gone back from, or told anew")
     static void promise05_toldAnewThereIsHope() {
         Used used = new Used().tells(NO_WAY);
