@@ -149,6 +149,17 @@ class Edges {
         return used;
     }
 
+    static boolean isSo(Used used, int mark) {
+        int bound = used.number(mark / 100, mark / 10 % 10);
+        return mark / 10 % 10 == 0 ? mark % 10 <= bound : mark % 10 >= bound;
+    }
+
+    static boolean isNotSo(Used used, int mark) {
+        int side = mark / 10 % 10;
+        int bound = used.number(mark / 100, 1 - side);
+        return side == 0 ? mark % 10 > bound : mark % 10 < bound;
+    }
+
     /** 40 cuts are learnt, and rule 1 breaks at level 1. */
     static Used fortyCuts() {
         Used used = new Used().tells(MANY);

@@ -548,6 +548,51 @@ final class EdgesOfActs extends Edges {
         due(1, cut.about(5));
     }
 
+    /** Something breaks, or no rule and no cut has anything to tell. */
+    private static void isDrawnIn(Used used) {
+        if (used.about(4) != NONE) {
+            return;
+        }
+        int numbers = used.about(0);
+        int rules = used.about(1);
+        for (int rule = 0; rule < rules; rule++) {
+            int room = used.rule(rule, 4) - 100 - (used.rule(rule, 5) - 1000);
+            due(1, room >= 0 ? 1 : 0);
+            for (int x = 0; x < numbers; x++) {
+                int weight = Math.abs(used.rule(rule, x) - 10);
+                boolean tells = weight > 0 && room / weight < used.number(x, 1) - used.number(x, 0);
+                due(0, tells ? 1 : 0);
+            }
+        }
+        int cuts = used.about(5);
+        for (int cut = 0; cut < cuts; cut++) {
+            List<Integer> open = used.marksOfCut(cut).stream().filter(mark -> !isSo(used, mark)).toList();
+            due(0, open.size() == 1 && !isNotSo(used, open.get(0)) ? 1 : 0);
+            due(0, open.isEmpty() ? 1 : 0);
+        }
+    }
+
+    @Says("THE TRAIL is always DRAWN IN.")
+    static void promise14_behindEachActTheTrailIsDrawnIn() {
+        String moves = "012 201 211 311 l v 311 v v 103 l v";
+        for (int length = 3; length <= moves.length(); length++) {
+            if (length == moves.length() || moves.charAt(length) == ' ') {
+                isDrawnIn(new Used().tells(SIX_MARKS).plays(moves.substring(0, length)));
+                Used undone = new Used().tells(SIX_MARKS).plays(moves.substring(0, length));
+                undone.keep(0);
+                undone.undo();
+                isDrawnIn(undone);
+                undone.again(0);
+                isDrawnIn(undone);
+            }
+        }
+        Used used = cutBreaks();
+        used.leave();
+        isDrawnIn(used);
+        used.plays("102 l");
+        isDrawnIn(used);
+    }
+
     // ---- promise 15: run
 
     @Says("RUN: how many STEPS were done. BAD: n (1 .. 50).")

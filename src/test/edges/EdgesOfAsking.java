@@ -88,14 +88,8 @@ final class EdgesOfAsking extends Edges {
         Used used = new Used().tells("L3233rc21+00r3cb+01r3cb-05").plays("001 201 102 l l l");
         due(11, used.about(4));
         for (int mark : used.marksOfCut(1)) {
-            due(1, isSo(used, mark));
+            due(1, isSo(used, mark) ? 1 : 0);
         }
-    }
-
-    private static int isSo(Used used, int mark) {
-        int bound = used.number(mark / 100, mark / 10 % 10);
-        boolean so = mark / 10 % 10 == 0 ? mark % 10 <= bound : mark % 10 >= bound;
-        return so ? 1 : 0;
     }
 
     @Says("THE BREAK: the first RULE that BREAKS, else the first CUT; NONE.")
@@ -114,7 +108,7 @@ final class EdgesOfAsking extends Edges {
             .plays("313 312 011 102 l 101 l v 102");
         for (int cut = 0; cut < 2; cut++) {
             for (int mark : used.marksOfCut(cut)) {
-                due(1, isSo(used, mark));
+                due(1, isSo(used, mark) ? 1 : 0);
             }
         }
         due(10, used.about(4));
@@ -218,6 +212,24 @@ final class EdgesOfAsking extends Edges {
         due(0, none.about(9));
         due(2, none.about(8));
         due(0, new Used().tells(NO_WAY).about(9));
+    }
+
+    @Says("MARKS of LEVEL 0 hold in all WAYS.")
+    static void promise06_atLevel0AllWaysAreOpen() {
+        for (String text : MIXED) {
+            Used used = new Used().tells(text);
+            due(used.about(8), used.about(9));
+        }
+        // What cuts of one mark tell holds in all ways, too.
+        Used small = new Used().tells(SMALL).plays("001 l");
+        due(1, small.about(2));
+        due(2, small.about(9));
+        due(2, small.about(8));
+        Used three = cutBreaks();
+        due(1, three.learn());
+        due(0, three.about(3));
+        due(three.about(8), three.about(9));
+        due(new ByHand(THREE).ways(0), three.about(9));
     }
 
     @Says("ACTS (MADE; LEARNT; LEFT; RUN) are a row (never more than 14")

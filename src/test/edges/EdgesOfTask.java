@@ -137,6 +137,15 @@ final class EdgesOfTask extends Edges {
         due(0, used.callsLeft());
     }
 
+    @Says("BAD -2, LATE -3, FULL -4. What is refused changes nothing. NONE is -9.")
+    static void promise01_theConstants() {
+        due(UNKNOWN, CutTrail.UNKNOWN);
+        due(BAD, CutTrail.BAD);
+        due(LATE, CutTrail.LATE);
+        due(FULL, CutTrail.FULL);
+        due(NONE, CutTrail.NONE);
+    }
+
     // ---- promise 2: write
 
     @Says("A letter (0 .. 255) comes behind THE TEXT: how long it is.")
