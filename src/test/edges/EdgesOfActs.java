@@ -360,6 +360,28 @@ final class EdgesOfActs extends Edges {
         due(List.of(1, 101, 210), three.marks());
     }
 
+    @Says("all MARKS go from THE TRAIL whose LEVEL is more than the greatest LEVEL of the others of the SET")
+    static void promise13_withAllMarksThatThereCanBe() {
+        // x + y is z + 9 or less, all three are 26 or less together; the fourth number is in no rule.
+        Used used = new Used().tells("L49999r11a0+09r1110+26");
+        used.plays("301 302 303 304 305 306 307 308 309 001 002 003 004 005 006 007 008 009");
+        due(18, used.about(2));
+        used.plays("101 102 103 104 105 106 107 108");
+        due(NONE, used.about(4));
+        due(36, used.make(1, 0, 9));
+        due(27, used.about(3));
+        due(1, used.about(4));
+        due(2, used.learn());
+        due(List.of(9, 109), used.marksOfCut(0));
+        due(18, used.about(3));
+        due(19, used.about(2));
+        due(118, used.mark(18, 0));
+        due(10, used.mark(18, 2));
+        due(13, used.undo());
+        due(36, used.about(2));
+        due(1, used.about(4));
+    }
+
     @Says("(0: there are none)")
     static void promise13_aCutOfOneMarkLeavesAllLevels() {
         Used used = new Used().tells("L41111r1a00+00r1100+01").plays("201 301 001");
