@@ -25,7 +25,31 @@ public final class ModelRuns {
     private static int cutReasons = 0;
     private static int sameSideWhy = 0;
 
+    /** The runs that the tests of edges take known answers from; s is one step run. */
+    private static final String[][] KNOWN = {
+        {"L46667r2b2b+01rb2b2-01", "s ".repeat(100)},
+        {"L44323r1ba1-04rb23c+00", "012 201 211 311 l v 311 v v 103 l v"},
+        {"L3132r132+06ra2b+00", "010 102 l v 102 l"},
+        {"L3233rc21+00r3cb+01r3cb-05", "001 201 102 l l l l"},
+        {"L41434raa32+01r21cc-04", "102 112 l l l"},
+        {"L43344ra0ac-02rc12b+01r32c2-04r1cbb-01", "313 312 011 102 l 101 l v 102 l"},
+        {"L49999ra111+01r0b01-02rbb3a-03r001a-01r01c2+02ra3ac+03", "s l"},
+        {"L49999r33c0-00rb002-01r002b+01r0b02+04", "l"},
+        {"L49999r11a0+09r1110+26", "301 302 303 304 305 306 307 308 309 001 002 003 004 005 006 007 008 009 "
+            + "101 102 103 104 105 106 107 108 109 l"},
+        {"L46687rbb2b+03r22b2-03",
+            "105 010 106 l l l 207 002 103 003 l v v v 110 010 l 314 003 207 v v v v 305 v 012 101 215 103 l 204 310 "
+            + "102 l l 205 311 l l l l 301 313 205 208 113 002 l l l 214 l 312 002 311 l l v v v v 112 010 216 206 l l "
+            + "304 v v v 217 312 101 216 v v v v 112 313 003 301 111 302 v v v v v v 215 v 301 213 l 111 311 002 012 l "
+            + "013 l 101 l l 214 l l 312 002 207 101 l l v v v 011 315 113 204 304 217 101 l l v v v v v 213 v 015 013 "
+            + "002 101 311 v v v v v 203 301 004 l 002 208 101 l l 207 102 l l l 110 l 111 206 001 l l l 206 207 103 "
+            + "104 l l 217 l l v v 214 v 310 101 011 206 l" + " l"},
+    };
+
     public static void main(String[] args) {
+        for (int run = 0; run < KNOWN.length; run++) {
+            new Run(-1 - run).goKnown(KNOWN[run][0], KNOWN[run][1]);
+        }
         for (int run = 0; run < RUNS && wrong < 20; run++) {
             new Run(run).go();
         }
@@ -75,6 +99,24 @@ public final class ModelRuns {
                 }
             }
             lookAtAll();
+        }
+
+        void goKnown(String text, String moves) {
+            tell(text);
+            lookAtAll();
+            for (String move : moves.trim().split(" ")) {
+                if (move.equals("l")) {
+                    due("learn()", real.learn(), model.learn());
+                } else if (move.equals("v")) {
+                    due("leave()", real.leave(), model.leave());
+                } else if (move.equals("s")) {
+                    due("run(1)", real.run(1), model.run(1));
+                } else {
+                    int x = move.charAt(0) - '0', side = move.charAt(1) - '0', k = move.charAt(2) - '0';
+                    due("make(" + x + ", " + side + ", " + k + ")", real.make(x, side, k), model.make(x, side, k));
+                }
+                lookAtAll();
+            }
         }
 
         void tell(String text) {
