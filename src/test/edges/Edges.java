@@ -7,6 +7,7 @@ class Edges {
     static final int LATE = -3;
     static final int FULL = -4;
     static final int NONE = -9;
+    static final int MADE = -1;
     static final int LEAST_INT = Integer.MIN_VALUE;
     static final int MOST_INT = Integer.MAX_VALUE;
 
@@ -165,6 +166,20 @@ class Edges {
         Used used = new Used().tells(MANY);
         due(50, used.run(50));
         due(31, used.run(31));
+        due(40, used.about(5));
+        due(1, used.about(4));
+        return used;
+    }
+
+    /** 40 cuts are learnt, the first six and eleven others are reasons, all 36 marks are on the trail, rule 1 breaks. */
+    static Used fortyCutsAllMarks() {
+        Used used = new Used().tells("L49999r2b2b+03rb2b2-03");
+        due(50, used.run(50));
+        due(50, used.run(50));
+        due(50, used.run(50));
+        due(41, used.run(41));
+        due(0, used.leave());
+        due(36, used.make(1, 0, 9));
         due(40, used.about(5));
         due(1, used.about(4));
         return used;

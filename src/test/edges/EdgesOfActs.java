@@ -474,6 +474,26 @@ final class EdgesOfActs extends Edges {
         due(size, used.marksOfCut(39).size());
     }
 
+    @Says("(if there are 40, the first one that is no REASON of a MARK of THE TRAIL is forgotten ahead of it: "
+        + "later ones are at one place less then, REASONS likewise)")
+    static void promise13_atFortyWithAllMarksThatThereCanBe() {
+        learnsAtForty(fortyCutsAllMarks(), 6);
+    }
+
+    @Says("later ones are at one place less then, REASONS likewise")
+    static void promise13_atFortyTheReasonsOfAllMarks() {
+        Used used = fortyCutsAllMarks();
+        due(List.of(10, 11, 12, 13, 14, 15, 21, 31, 41, 42, 43, 44, 45, 46, 47, 48, 49, 1, 1, MADE),
+            used.row(2).subList(0, 20));
+        due(1, used.learn());
+        due(List.of(10, 11, 12, 13, 14, 15, 20, 30, 40, 41, 42, 43, 44, 45, 46, 47, 48, 1, 1, 49),
+            used.row(2).subList(0, 20));
+        due(List.of(109), used.marksOfCut(39));
+        due(118, used.mark(19, 0));
+        due(0, used.about(3));
+        due(36, used.about(2));
+    }
+
     @Says("the first one that is no REASON of a MARK of THE TRAIL is forgotten ahead of it")
     static void promise13_marksThatGoAreLookedAtToo() {
         Used used = new Used().tells("L46687rbb2b+03r22b2-03").plays(LONG);
