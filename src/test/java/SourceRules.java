@@ -25,6 +25,11 @@ public final class SourceRules {
         "\\bimport\\b", "\\bpackage\\b", "\\bthrow\\b", "\\btry\\b", "\\bcatch\\b", "\\bsynchronized\\b",
         "\\bassert\\b", "->", "::", "\\bstatic\\s*\\{", "\\bdouble\\b", "\\bfloat\\b", "Exact\\(",
         "\\bprotected\\b", "@");
+    /** Of what LANGUAGE.md lists of the library, all that the class has use for. */
+    private static final Set<String> LIBRARY = Set.of(
+        "Math.max", "Math.min", "Math.floorDiv", "Integer.bitCount", "System.arraycopy");
+    private static final Set<Class<?>> OF_CONSTANTS = Set.of(int.class, long.class, boolean.class, char.class,
+        String.class, int[].class, long[].class, char[].class, byte[].class);
     private static int wrong = 0;
 
     private static void holds(boolean so, String rule) {
@@ -37,7 +42,10 @@ public final class SourceRules {
     public static void main(String[] args) throws IOException {
         face();
         classesInside();
-        words(Files.readString(Path.of("src/main/java/CutTrail.java")));
+        String source = Files.readString(Path.of("src/main/java/CutTrail.java"));
+        String code = source.replaceAll("(?s)/\\*.*?\\*/", "").replaceAll("//[^\n]*", "");
+        words(source, code);
+        library(code);
         System.out.println(wrong == 0 ? "all rules are kept" : wrong + " rules are not kept");
         if (wrong != 0) {
             System.exit(1);
@@ -82,10 +90,11 @@ public final class SourceRules {
             shown.add(method.substring(method.indexOf(' ') + 1, method.indexOf('(')));
         }
         Class<?>[] inside = CutTrail.class.getDeclaredClasses();
-        holds(inside.length <= 12, "at most some twelve classes");
+        holds(inside.length + 1 <= 12, "at most some twelve classes");
+        fields(CutTrail.class);
         for (Class<?> kind : inside) {
             holds(Modifier.isStatic(kind.getModifiers()), kind + " is static");
-            holds(kind.getDeclaredFields().length <= 20, kind + " has few fields");
+            fields(kind);
             for (Method method : kind.getDeclaredMethods()) {
                 holds(!shown.contains(method.getName()), method + " has a name of its own");
                 holds(method.getParameterCount() <= 7, method + " has few parameters");
@@ -97,8 +106,35 @@ public final class SourceRules {
         }
     }
 
-    private static void words(String source) {
-        String code = source.replaceAll("(?s)/\\*.*?\\*/", "").replaceAll("//[^\n]*", "");
+    private static void fields(Class<?> kind) {
+        int own = 0;
+        for (Field field : kind.getDeclaredFields()) {
+            if (Modifier.isStatic(field.getModifiers())) {
+                holds(Modifier.isFinal(field.getModifiers()) && OF_CONSTANTS.contains(field.getType()),
+                    field + " is a constant");
+            } else {
+                own++;
+            }
+        }
+        holds(own <= 20, kind + " has few fields");
+    }
+
+    private static void library(String code) {
+        Matcher call = Pattern.compile("\\b([A-Z]\\w*[a-z]\\w*\\.\\w+)").matcher(code);
+        while (call.find()) {
+            holds(LIBRARY.contains(call.group(1)), "of the library no " + call.group(1));
+        }
+        Set<String> made = new TreeSet<>(Set.of("int", "boolean"));
+        for (Class<?> inside : CutTrail.class.getDeclaredClasses()) {
+            made.add(inside.getSimpleName());
+        }
+        Matcher maker = Pattern.compile("\\bnew\\s+(\\w+)").matcher(code);
+        while (maker.find()) {
+            holds(made.contains(maker.group(1)), "makes no " + maker.group(1));
+        }
+    }
+
+    private static void words(String source, String code) {
         for (String word : FORBIDDEN) {
             Matcher matcher = Pattern.compile(word).matcher(code);
             holds(!matcher.find(), "without " + word);
